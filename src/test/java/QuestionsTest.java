@@ -10,6 +10,7 @@ public final class QuestionsTest {
         choice();
         log();
         logIsFull();
+        eightLandings();
         Due.end("QuestionsTest");
     }
 
@@ -120,5 +121,30 @@ public final class QuestionsTest {
             Due.is("log(" + ago + ", 2)", x.log(ago, 2), 47 - ago);
         }
         Due.is("log(20, 2)", x.log(20, 2), NO_SUCH);
+    }
+
+    private static void eightLandings() {
+        LandingFines x = new LandingFines();
+        x.set(LandingFines.CLOSE, 3000);
+        for (int i = 0; i < 8; i++) {
+            x.landing(7 - i);
+        }
+        for (int rank = 0; rank < 8; rank++) {
+            Due.is("choice(" + rank + ")", x.choice(rank), 7 - rank);
+        }
+        Due.is("choice(8)", x.choice(8), NO_SUCH);
+        for (int i = 0; i < 8; i++) {
+            x.close(i);
+        }
+        Due.is("none is open", x.count(2), 0);
+        Due.is("all are shunned", x.count(3), 255);
+        for (int i = 0; i < 8; i++) {
+            x.open(i);
+        }
+        Due.is("all are open", x.count(2), 255);
+        Due.is("none is taken", x.count(4), NONE);
+        Due.is("all become welcome again", x.pass(60), 8);
+        Due.is("the last one is taken", x.count(4), 7);
+        Due.is("none is shunned", x.count(3), 0);
     }
 }
