@@ -2,8 +2,18 @@
 final class Due {
     private static int right = 0;
     private static int wrong = 0;
+    private static String head = "";
 
     private Due() {
+    }
+
+    /** What is told ahead of each call from now on. */
+    static void head(String text) {
+        head = text;
+    }
+
+    static int answers() {
+        return right + wrong;
     }
 
     static void is(String call, long got, long want) {
@@ -11,8 +21,12 @@ final class Due {
             right++;
         } else {
             wrong++;
-            System.out.println(call + " answered " + got + ", due is " + want);
+            System.out.println(head + call + " answered " + got + ", due is " + want);
         }
+    }
+
+    static void same(String call, String got, String want) {
+        is(got.equals(want) ? call : call + ": " + got + "is not " + want, got.equals(want) ? 1 : 0, 1);
     }
 
     static boolean anyWrong() {

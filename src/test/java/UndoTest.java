@@ -14,27 +14,8 @@ public final class UndoTest {
         Due.end("UndoTest");
     }
 
-    /** All answers about the state that undo() and restore() bring back, in one row. */
-    private static String state(LandingFines x) {
-        StringBuilder all = new StringBuilder();
-        for (int what = 0; what <= 13; what++) {
-            all.append(x.count(what)).append(' ');
-        }
-        for (int landing = 0; landing < 8; landing++) {
-            for (int what = 0; what < 8; what++) {
-                all.append(x.of(landing, what)).append(' ');
-            }
-        }
-        for (int ago = 0; ago < 20; ago++) {
-            for (int what = 0; what < 3; what++) {
-                all.append(x.log(ago, what)).append(' ');
-            }
-        }
-        return all.toString();
-    }
-
     private static void same(String call, LandingFines x, String before) {
-        Due.is(call + ": the state is as it was", state(x).equals(before) ? 1 : 0, 1);
+        Due.same(call + ": the state is as it was", Sentences.state(x), before);
     }
 
     private static void undoOfEachChange() {
@@ -78,7 +59,7 @@ public final class UndoTest {
     /** Makes a state that the history does not have yet, and tells it. */
     private static String anotherState(LandingFines x) {
         x.pass(1);
-        return state(x);
+        return Sentences.state(x);
     }
 
     private static void undone(String call, LandingFines x, String before) {
@@ -95,7 +76,7 @@ public final class UndoTest {
             x.pass(1);
             x.price(0, 10 + i);
         }
-        String full = state(x);
+        String full = Sentences.state(x);
         x.save(0);
         Due.write(x, "t9;c1;p1=1;o1;p1=2;c1;p1=3;o1;p1=4");
         Due.is("carryOut()", x.carryOut(), 9);
@@ -157,11 +138,11 @@ public final class UndoTest {
         x.landing(4);
         x.close(1);
         x.pass(3);
-        String full = state(x);
+        String full = Sentences.state(x);
         Due.is("restore(1), nothing saved", x.restore(1), NOT_POSSIBLE);
         Due.is("save(1)", x.save(1), 2);
         Due.is("restore(0)", x.restore(0), 0);
-        same("restore(0)", x, state(new LandingFines()));
+        same("restore(0)", x, Sentences.state(new LandingFines()));
         Due.is("restore(1)", x.restore(1), 2);
         same("restore(1)", x, full);
         x.price(0, 9);
